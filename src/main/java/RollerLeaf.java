@@ -299,7 +299,11 @@ public final class RollerLeaf {
     }
 
     private static int wrapped(int value, int size) {
-        return size < 1 ? 0 : Math.floorMod(value, size);
+        if (size < 1) {
+            return 0;
+        }
+        int rest = value % size;
+        return rest < 0 ? rest + size : rest;
     }
 
     /** A rectangle of colours that goes on without end by its own columns and rows. */
