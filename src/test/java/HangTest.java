@@ -20,6 +20,7 @@ public final class HangTest {
         goneFromTheLot();
         beginsWithRow0();
         wallArguments();
+        wallsNumber();
         wallExceptions();
         hangAnswers();
         hangNoSuch();
@@ -94,7 +95,8 @@ public final class HangTest {
             checks.badState(rolls + " rolls for " + drops + " and 12 drops", world, works -> works.hang(0, 0));
         }
         checks.equal("20 rolls for 20 drops", 20, () -> withWholeRolls(20, 12, 8).hang(0, 0));
-        checks.equal("the last of 20", 19000, () -> Samples.hung(Samples.withLot(4, 20, 40), 12, 40, 8, 40).cut(0, 1, 7));
+        checks.equal("the last of 20", 19000,
+            () -> Samples.hung(Samples.withLot(4, 20, 40), 12, 40, 8, 40).cut(0, 1, 7));
         checks.badState("20 rolls for 21 drops", () -> withWholeRolls(20, 12, 9), works -> works.hang(0, 0));
         checks.equal("1 roll for 1 drop", 1, () -> withWholeRolls(1, 1).hang(0, 0));
         checks.badState("1 roll for 2 drops", () -> withWholeRolls(1, 2), works -> works.hang(0, 0));
@@ -139,10 +141,12 @@ public final class HangTest {
         cuts("a whole roll", Samples.hung(Samples.withLot(4, 20, 40), 2, 40), new int[] {0, 1000});
         cuts("the least roll", Samples.hung(Samples.withLot(10, 20, 1), 2, 1), new int[] {0, 1000});
         cuts("as far, but not from the phase on", Samples.hung(Samples.withLot(4, 20, 11), 2, 5), new int[] {0, 1000});
-        checks.badState("a drop a row longer than a roll", () -> Samples.withWalls(Samples.withLot(4, 20, 40), 0, 1, 41),
+        checks.badState("a drop a row longer than a roll",
+            () -> Samples.withWalls(Samples.withLot(4, 20, 40), 0, 1, 41),
             works -> works.hang(0, 0));
         checks.badState("the last drop a row longer than a roll",
-            () -> Samples.withWalls(Samples.withLot(4, 20, 40), 0, 12, 10, 12, 10, 12, 40, 1, 41), works -> works.hang(0, 0));
+            () -> Samples.withWalls(Samples.withLot(4, 20, 40), 0, 12, 10, 12, 10, 12, 40, 1, 41),
+                works -> works.hang(0, 0));
     }
 
     private static void phaseThatOpensFewest() {
@@ -162,6 +166,11 @@ public final class HangTest {
         phased(7, 3, withWalled(8, 51, 4, 13, 2, 17, 2, 12), "4 4 4 4 4 4 4 3");
         phased(1, 3, withWalled(10, 49, 1, 17, 2, 29, 1, 3, 3, 13), "4 3 3 3 3 3 3 5 5 5");
         phased(9, 3, withWalled(10, 65, 4, 17, 2, 24, 2, 16), "4 4 4 4 4 4 4 4 4 3");
+        // The rows of the repeat themselves are no phase, though fewer rolls would do by them.
+        phased(0, 4, withWalled(1, 24, 1, 10, 2, 14, 1, 2, 3, 9), "4, behind it 3");
+        phased(0, 4, withWalled(2, 25, 4, 8, 1, 12, 1, 11, 2, 7), "4 4, behind them 3");
+        phased(0, 4, withWalled(3, 38, 4, 12, 2, 17, 2, 11), "4 4 4, behind them 3");
+        phased(0, 5, withWalled(10, 97, 4, 28, 2, 43, 2, 22, 2, 32), "10 times 5, behind them 4");
     }
 
     private static void phaseBySomeDropsAlone() {
@@ -217,7 +226,8 @@ public final class HangTest {
             Checks.World world = () -> withTwoDrops(symmetry);
             int columns = world.make().repeat(0, false);
             int last = world.make().colour(0, columns - 1, 0);
-            checks.equal("symmetry " + symmetry + ", the last cell", last, () -> world.make().seen(0, 0, 2 * columns - 1, 0));
+            checks.equal("symmetry " + symmetry + ", the last cell", last,
+                () -> world.make().seen(0, 0, 2 * columns - 1, 0));
             checks.outside("symmetry " + symmetry + ", a cell more", world, w -> w.seen(0, 0, 2 * columns, 0));
         }
     }
@@ -244,6 +254,20 @@ public final class HangTest {
         }
     }
 
+    private static void wallsNumber() {
+        checks.sentence("Promise 10: wall", "Returns its number.");
+        RollerLeaf works = Samples.withLot(1, 20, 60);
+        checks.equal("the first", 0, () -> works.wall(2, 1, 1));
+        checks.equal("the second", 1, () -> works.wall(2, 1, 2));
+        checks.equal("the first of another room", 0, () -> works.wall(1, 1, 3));
+        works.hang(2, 0);
+        works.strip(2);
+        checks.equal("the third, after the room was hung", 2, () -> works.wall(2, 1, 4));
+        checks.equal("the last", 3, () -> works.wall(2, 1, 5));
+        works.hang(2, 0);
+        checks.equal("all walls, cut by their numbers", 7, () -> works.cut(2, 3, 0));
+    }
+
     private static void wallExceptions() {
         checks.sentence("Promise 10: wall", "Throws `IndexOutOfBoundsException` as told");
         for (int room : Samples.NO_ROOMS) {
@@ -260,7 +284,8 @@ public final class HangTest {
         }
         checks.sentence("Promise 10: wall", "Throws `IllegalStateException` if it is hung, or has 4 walls");
         checks.badState("hung, 1 wall", HangTest::withHungRoom, works -> works.wall(0, 1, 1));
-        checks.badState("hung, 4 walls", () -> Samples.hung(Samples.withLot(1, 1, 60), 1, 1, 1, 1, 1, 1, 1, 1), works -> works.wall(0, 1, 1));
+        checks.badState("hung, 4 walls", () -> Samples.hung(Samples.withLot(1, 1, 60), 1, 1, 1, 1, 1, 1, 1, 1),
+            works -> works.wall(0, 1, 1));
         checks.equal("3 walls", 3, () -> withWalls(3).wall(0, 1, 1));
         checks.badState("4 walls", () -> withWalls(4), works -> works.wall(0, 1, 1));
         RollerLeaf works = withHungRoom();

@@ -11,6 +11,7 @@ public final class LotTest {
         engravedAsItIsThen();
         tenLots();
         rollArguments();
+        numbersOfTheNew();
         rollerExceptions();
         lotArguments();
         lotExceptions();
@@ -100,6 +101,20 @@ public final class LotTest {
 
     // ---- promise 7
 
+    private static void numbersOfTheNew() {
+        RollerLeaf works = Samples.painted(1, 2, RollerLeaf.SHIFT);
+        checks.sentence("Promise 7: roller", "Returns its number.");
+        checks.equal("the first roller", 0, () -> works.roller(0, 2));
+        checks.equal("the second roller", 1, () -> works.roller(0, 4));
+        checks.equal("the last roller", 7, () -> withRollers(7).roller(0, 2));
+        checks.sentence("Promise 8: lot", "Returns its number.");
+        checks.equal("the first lot", 0, () -> works.lot(1, 0, 1, 8));
+        checks.equal("the second lot", 1, () -> works.lot(0, 0, 1, 8));
+        checks.equal("the last lot", 9, () -> withLots(9).lot(0, 0, 1, 1));
+        checks.equal("the first lot has the second roller", 2, () -> works.lotOf(0, 4));
+        checks.equal("the second lot has the first roller", 4, () -> works.lotOf(1, 4));
+    }
+
     private static void rollerExceptions() {
         Checks.World world = () -> withRollers(1);
         checks.sentence("Promise 7: roller", "`round`: 1 to 60");
@@ -108,19 +123,22 @@ public final class LotTest {
         checks.sentence("Promise 7: roller", "Throws `IllegalArgumentException` if round is out of range");
         for (int round : new int[] {0, 61, 62, 120, -1, -2, LOWEST, HIGHEST}) {
             checks.badArgument("a round of " + round, world, works -> works.roller(0, round));
-            checks.badArgument("a round of " + round + ", and there are 8", () -> withRollers(8), works -> works.roller(0, round));
+            checks.badArgument("a round of " + round + ", and there are 8", () -> withRollers(8),
+                works -> works.roller(0, round));
         }
         checks.sentence("Promise 7: roller", "Throws `IndexOutOfBoundsException` as told");
         for (int pattern : new int[] {-1, 1, 6, LOWEST, HIGHEST}) {
             checks.outside("pattern " + pattern, world, works -> works.roller(pattern, 2));
         }
-        checks.sentence("Promise 7: roller", "Throws `IllegalStateException` if the round does not hold the repeat, or there are 8");
+        checks.sentence("Promise 7: roller", "Throws `IllegalStateException` if the round does not hold the"
+            + " repeat, or there are 8");
         checks.badState("a round of half a repeat", world, works -> works.roller(0, 1));
         checks.badState("a round of a repeat and a half", world, works -> works.roller(0, 3));
         checks.badState("a round of a row less than 30 repeats", world, works -> works.roller(0, 59));
         checks.equal("there are 7", 7, () -> withRollers(7).roller(0, 2));
         checks.badState("there are 8", () -> withRollers(8), works -> works.roller(0, 2));
-        checks.badState("there are 8, and the round does not hold the repeat", () -> withRollers(8), works -> works.roller(0, 3));
+        checks.badState("there are 8, and the round does not hold the repeat", () -> withRollers(8),
+            works -> works.roller(0, 3));
     }
 
     // ---- promise 8
@@ -152,15 +170,18 @@ public final class LotTest {
         checks.sentence("Promise 8: lot", "Throws `IndexOutOfBoundsException` as told");
         for (int roller : new int[] {-1, 2, 7, 8, LOWEST, HIGHEST}) {
             checks.outside("roller " + roller, () -> withRollers(2), works -> works.lot(roller, 0, 1, 1));
-            checks.outside("roller " + roller + ", wrong dye", () -> withRollers(2), works -> works.lot(roller, 10, 1, 1));
-            checks.outside("roller " + roller + ", and there are 10", () -> withLots(10), works -> works.lot(roller, 0, 1, 1));
+            checks.outside("roller " + roller + ", wrong dye", () -> withRollers(2),
+                works -> works.lot(roller, 10, 1, 1));
+            checks.outside("roller " + roller + ", and there are 10", () -> withLots(10),
+                works -> works.lot(roller, 0, 1, 1));
         }
         checks.sentence("Promise 8: lot", "Throws `IllegalArgumentException` if dye, rolls or length is out of range");
         int[][] wrong = {{-1, 1, 1}, {10, 1, 1}, {0, 0, 1}, {0, 21, 1}, {0, 1, 0}, {0, 1, 201}, {10, 21, 201}, {-1, 0, 0}};
         for (int[] w : wrong) {
             String what = w[0] + ", " + w[1] + ", " + w[2];
             checks.badArgument(what, () -> withLots(3), works -> works.lot(0, w[0], w[1], w[2]));
-            checks.badArgument(what + ", and there are 10", () -> withLots(10), works -> works.lot(0, w[0], w[1], w[2]));
+            checks.badArgument(what + ", and there are 10", () -> withLots(10),
+                works -> works.lot(0, w[0], w[1], w[2]));
         }
         checks.sentence("Promise 8: lot", "Throws `IllegalStateException` if there are 10");
         checks.equal("there are 9", 9, () -> withLots(9).lot(1, 9, 20, 200));

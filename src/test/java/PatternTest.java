@@ -21,6 +21,7 @@ public final class PatternTest {
         quartered();
         withoutEnd();
         patternArguments();
+        patternsNumber();
         patternExceptions();
         paintedColours();
         colourBefore();
@@ -77,8 +78,10 @@ public final class PatternTest {
         }
         checks.equal(what + "the last cell of the motif", 0, () -> works.paint(0, columns - 1, rows - 1, 7));
         checks.equal(what + "the last cell, painted", 7, () -> works.paint(0, columns - 1, rows - 1, 0));
-        checks.outside(what + "a cell right of it", () -> Samples.painted(columns, rows, symmetry), w -> w.paint(0, columns, 0, 1));
-        checks.outside(what + "a cell below it", () -> Samples.painted(columns, rows, symmetry), w -> w.paint(0, 0, rows, 1));
+        checks.outside(what + "a cell right of it", () -> Samples.painted(columns, rows, symmetry),
+            w -> w.paint(0, columns, 0, 1));
+        checks.outside(what + "a cell below it", () -> Samples.painted(columns, rows, symmetry),
+            w -> w.paint(0, 0, rows, 1));
     }
 
     private static void shifted() {
@@ -158,7 +161,8 @@ public final class PatternTest {
             RollerLeaf works = Samples.painted(3, 3, symmetry);
             int columns = 3 * COLUMN_TIMES[symmetry];
             int rows = 3 * ROW_TIMES[symmetry];
-            int[] far = {-1, 0, 1, -columns, columns - 1, columns, -rows, rows - 1, rows, LOWEST, LOWEST + 1, HIGHEST - 1, HIGHEST};
+            int[] far = {-1, 0, 1, -columns, columns - 1, columns, -rows, rows - 1, rows,
+                LOWEST, LOWEST + 1, HIGHEST - 1, HIGHEST};
             for (int x : far) {
                 for (int y : far) {
                     int due = works.colour(0, Math.floorMod(x, columns), Math.floorMod(y, rows));
@@ -192,13 +196,25 @@ public final class PatternTest {
         }
     }
 
+    private static void patternsNumber() {
+        checks.sentence("Promise 2: pattern", "Returns its number.");
+        RollerLeaf works = new RollerLeaf();
+        checks.equal("the first", 0, () -> works.pattern(1, 2, RollerLeaf.SHIFT));
+        checks.equal("the second", 1, () -> works.pattern(3, 4, RollerLeaf.SHIFT));
+        checks.equal("the first's columns", 1, () -> works.repeat(0, false));
+        checks.equal("the second's rows", 4, () -> works.repeat(1, true));
+        checks.equal("the last", 5, () -> withPatterns(5).pattern(1, 1, RollerLeaf.SHIFT));
+    }
+
     private static void patternExceptions() {
         checks.sentence("Promise 2: pattern", "Throws `IllegalArgumentException` if an argument is out of range, or"
             + " columns and rows are unlike for QUARTER");
         int[][] wrong = {{0, 0, 0}, {6, 6, 5}, {0, 0, 5}, {4, 5, 5}, {5, 4, 5}, {1, 2, 5}, {2, 1, 5}, {6, 5, 5}, {1, 1, 7}};
         for (int[] w : wrong) {
-            checks.badArgument(w[0] + ", " + w[1] + ", " + w[2], () -> withPatterns(2), works -> works.pattern(w[0], w[1], w[2]));
-            checks.badArgument(w[0] + ", " + w[1] + ", " + w[2] + " of 6", () -> withPatterns(6), works -> works.pattern(w[0], w[1], w[2]));
+            checks.badArgument(w[0] + ", " + w[1] + ", " + w[2], () -> withPatterns(2),
+                works -> works.pattern(w[0], w[1], w[2]));
+            checks.badArgument(w[0] + ", " + w[1] + ", " + w[2] + " of 6", () -> withPatterns(6),
+                works -> works.pattern(w[0], w[1], w[2]));
         }
         RollerLeaf works = withPatterns(0);
         checks.equal("4 and 5 are unlike, but for BOTH", 0, () -> works.pattern(4, 5, RollerLeaf.BOTH));
@@ -219,7 +235,8 @@ public final class PatternTest {
         }
         checks.sentence("Promise 3: paint", "Throws `IllegalArgumentException` if colour is out of range");
         for (int colour : new int[] {-1, 8, LOWEST, HIGHEST}) {
-            checks.badArgument("" + colour, () -> Samples.painted(2, 3, RollerLeaf.BOTH), w -> w.paint(0, 0, 0, colour));
+            checks.badArgument("" + colour, () -> Samples.painted(2, 3, RollerLeaf.BOTH),
+                w -> w.paint(0, 0, 0, colour));
         }
     }
 
@@ -246,7 +263,8 @@ public final class PatternTest {
             {LOWEST, 0}, {HIGHEST, 0}, {0, LOWEST}, {0, HIGHEST}};
         for (int[] cell : cells) {
             checks.outside("cell " + cell[0] + ", " + cell[1], world, works -> works.paint(0, cell[0], cell[1], 1));
-            checks.outside("cell " + cell[0] + ", " + cell[1] + ", no colour", world, works -> works.paint(0, cell[0], cell[1], 8));
+            checks.outside("cell " + cell[0] + ", " + cell[1] + ", no colour", world,
+                works -> works.paint(0, cell[0], cell[1], 8));
         }
         for (int pattern : NO_PATTERNS) {
             checks.outside("pattern " + pattern, world, works -> works.paint(pattern, 0, 0, 1));

@@ -62,7 +62,8 @@ public final class RefusalTest {
         checks.sentence("Rooms", "If several exceptions apply, the one that is named first in the throws clause is thrown.");
         List<Refused> calls = new ArrayList<>();
         calls.add(new Refused("pattern: argument, state", ARGUMENT, works -> works.pattern(0, 1, 0)));
-        calls.add(new Refused("pattern: unlike for QUARTER, state", ARGUMENT, works -> works.pattern(1, 2, RollerLeaf.QUARTER)));
+        calls.add(new Refused("pattern: unlike for QUARTER, state", ARGUMENT,
+            works -> works.pattern(1, 2, RollerLeaf.QUARTER)));
         calls.add(new Refused("paint: pattern, argument", OUTSIDE, works -> works.paint(6, 0, 0, 8)));
         calls.add(new Refused("paint: column, argument", OUTSIDE, works -> works.paint(0, 2, 0, 8)));
         calls.add(new Refused("paint: row, argument", OUTSIDE, works -> works.paint(0, 0, 2, -1)));

@@ -24,6 +24,7 @@ public final class RoomTest {
         cutExceptions();
         cellsFrom0();
         seenAsEngraved();
+        seenOfWholeEngravings();
         seenInItsPhase();
         seenOfABareRoom();
         seenExceptions();
@@ -59,7 +60,8 @@ public final class RoomTest {
         checks.equal("the phase is kept", 6, () -> works.room(0, 3));
         RollerLeaf fewerByAnother = Samples.hung(Samples.withLot(2, 20, 24), 1, 22, 4, 8, 4, 10, 1, 7);
         checks.equal("the phase when hung", 0, () -> fewerByAnother.room(0, 3));
-        checks.equal("lengthen, though by the phase 1 no roll more were needed", 1, () -> fewerByAnother.lengthen(0, 3, 1));
+        checks.equal("lengthen, though by the phase 1 no roll more were needed", 1,
+            () -> fewerByAnother.lengthen(0, 3, 1));
         checks.equal("the phase when lengthened", 0, () -> fewerByAnother.room(0, 3));
         checks.equal("its rolls", 6, () -> fewerByAnother.room(0, 4));
     }
@@ -108,7 +110,8 @@ public final class RoomTest {
         checks.equal("a row", 1, () -> waste(Samples.hung(Samples.withLot(1, 20, 10), 1, 9)));
         checks.equal("a roll but for a row", 199, () -> waste(Samples.hung(Samples.withLot(4, 20, 200), 1, 1)));
         checks.equal("between drops", 50 - 2 * 18, () -> waste(Samples.hung(Samples.withLot(4, 3, 50), 2, 18)));
-        checks.equal("of 20 rolls", 20 * 19, () -> waste(Samples.hung(Samples.withLot(4, 20, 40), 5, 21, 5, 21, 5, 21, 5, 21)));
+        checks.equal("of 20 rolls", 20 * 19,
+            () -> waste(Samples.hung(Samples.withLot(4, 20, 40), 5, 21, 5, 21, 5, 21, 5, 21)));
         checks.equal("of several walls, before the phase, too", 3 * 162 - 32 - 4 * 57 - 2 * 21 - 7 * 16,
             () -> waste(Samples.hung(Samples.withPhasedRoom(20))));
         RollerLeaf works = Samples.hung(Samples.withLot(4, 3, 50), 2, 18, 1, 10);
@@ -298,8 +301,10 @@ public final class RoomTest {
         checks.equal("the first roll, a later row", 120, () -> works.cut(0, 1, 1));
         checks.equal("the second roll, its row 0", 1000, () -> works.cut(0, 2, 0));
         checks.equal("the first roll, where the second drop was too long", 180, () -> works.cut(0, 3, 0));
-        checks.equal("the last row", 199, () -> Samples.hung(Samples.withLot(1, 1, 200), 3, 60, 1, 19, 1, 1).cut(0, 2, 0));
-        checks.equal("the last roll", 19000, () -> Samples.hung(Samples.withLot(4, 20, 40), 12, 40, 8, 40).cut(0, 1, 7));
+        checks.equal("the last row", 199,
+            () -> Samples.hung(Samples.withLot(1, 1, 200), 3, 60, 1, 19, 1, 1).cut(0, 2, 0));
+        checks.equal("the last roll", 19000,
+            () -> Samples.hung(Samples.withLot(4, 20, 40), 12, 40, 8, 40).cut(0, 1, 7));
         Samples.withWalls(works, 1, 1, 60).hang(1, 0);
         checks.equal("another room's first roll", 0, () -> works.cut(1, 0, 0));
         works.strip(0);
@@ -373,6 +378,21 @@ public final class RoomTest {
         checks.equal("a lot printed after painting", 1, () -> works.seen(2, 0, 0, 0));
     }
 
+    private static void seenOfWholeEngravings() {
+        for (int symmetry : Samples.range(RollerLeaf.SHIFT, RollerLeaf.QUARTER)) {
+            RollerLeaf works = Samples.painted(5, 5, symmetry);
+            works.roller(0, 60);
+            works.lot(0, 0, 1, 10);
+            Samples.hung(works, 1, 10);
+            for (int x : Samples.range(0, works.repeat(0, false) - 1)) {
+                for (int y : Samples.range(0, 9)) {
+                    checks.equal("symmetry " + symmetry + ", " + x + ", " + y, works.colour(0, x, y),
+                        () -> works.seen(0, 0, x, y));
+                }
+            }
+        }
+    }
+
     private static void seenInItsPhase() {
         RollerLeaf works = Samples.hung(Samples.withPhasedRoom(5));
         // The repeat's left column is 1, 3, 5, 7, 1, 2, 0, 6, 4, 2; the phase is 6.
@@ -415,8 +435,10 @@ public final class RoomTest {
         }
         checks.equal("the first cell", 1, () -> high.make().seen(0, 0, 0, 0));
         checks.equal("the last cell", 4, () -> high.make().seen(0, 0, 3, 9));
-        checks.equal("the highest wall's last cell", 0, () -> Samples.hung(Samples.withLot(4, 1, 60), 1, 60).seen(0, 0, 1, 59));
-        checks.outside("a row above 60", () -> Samples.hung(Samples.withLot(4, 1, 60), 1, 60), works -> works.seen(0, 0, 1, 60));
+        checks.equal("the highest wall's last cell", 0,
+            () -> Samples.hung(Samples.withLot(4, 1, 60), 1, 60).seen(0, 0, 1, 59));
+        checks.outside("a row above 60", () -> Samples.hung(Samples.withLot(4, 1, 60), 1, 60),
+            works -> works.seen(0, 0, 1, 60));
     }
 
     // ---- promise 17

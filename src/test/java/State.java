@@ -21,9 +21,6 @@ final class State {
             state.tellRoom(room);
         }
         state.goOn();
-        if (state.calls > MOST_CALLS) {
-            throw new AssertionError("a test's object is too large: " + state.calls + " calls");
-        }
         return state.told.toString();
     }
 
@@ -88,6 +85,7 @@ final class State {
             drop++;
         }
         // In a bare room every cell answers NONE.
+        calls++;
         boolean hung = works.room(room, 2) != RollerLeaf.NONE;
         int y = 0;
         while (hung && tellSeen(room, wall, 0, y)) {
@@ -97,7 +95,6 @@ final class State {
         while (hung && tellSeen(room, wall, x, 0)) {
             x++;
         }
-        calls++;
         return drop > 0;
     }
 
@@ -140,6 +137,9 @@ final class State {
     /** Answers whether the call answered, and did not throw. */
     private boolean tell(Checks.Call call) {
         calls++;
+        if (calls > MOST_CALLS) {
+            throw new AssertionError("a test's object is too large, or answers without end");
+        }
         try {
             told.append(' ').append(call.answer());
             return true;
