@@ -7,6 +7,8 @@ import java.nio.file.Path;
 import java.util.ArrayList;
 import java.util.Arrays;
 import java.util.List;
+import java.util.Set;
+import java.util.TreeSet;
 import java.util.regex.Matcher;
 import java.util.regex.Pattern;
 
@@ -33,10 +35,27 @@ public final class LanguageTest {
             checks.that("the code has no " + words, !Pattern.compile(words).matcher(code).find());
         }
         checks.that("its signs are 1 to 127", source.chars().allMatch(sign -> sign >= 1 && sign <= 127));
+        library(code);
         throwsWrittenTexts(code);
         classes();
         shortMethods(source.split("\n"));
         checks.finish();
+    }
+
+    /** Rules 3 and 4: of the library the class needs Math alone, and what it makes are its own objects and rows. */
+    private static void library(String code) {
+        Matcher used = Pattern.compile("\\b([A-Z]\\w*[a-z]\\w*)\\s*\\.").matcher(code);
+        while (used.find()) {
+            checks.that(used.group(1) + " is of the list", used.group(1).equals("Math"));
+        }
+        Set<String> own = new TreeSet<>(List.of("int"));
+        for (Class<?> inside : RollerLeaf.class.getDeclaredClasses()) {
+            own.add(inside.getSimpleName());
+        }
+        Matcher made = Pattern.compile("\\bnew\\s+(\\w+)").matcher(code);
+        while (made.find()) {
+            checks.that("new " + made.group(1), own.contains(made.group(1)) || made.group(1).endsWith("Exception"));
+        }
     }
 
     /** Rule 6. */
